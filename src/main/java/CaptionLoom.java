@@ -63,8 +63,10 @@ public final class CaptionLoom {
     private final Loom draft = new Loom();
     private final Caption box = new Caption();
     private final History history = new History();
-    private final Loom[] saved = new Loom[SLOTS];
-    private final boolean[] isSaved = new boolean[SLOTS];
+    private final Loom savedFirst = new Loom();
+    private final Loom savedSecond = new Loom();
+    /** A bit for each slot in which something is saved. */
+    private int slotsInUse;
     private final int[] accounts = new int[ACCOUNTS];
     private final int[] amounts = new int[COLOURS];
     private final Bytes text = new Bytes();
@@ -74,9 +76,7 @@ public final class CaptionLoom {
     private final Script script = new Script(reader);
 
     public CaptionLoom() {
-        for (int i = 0; i < saved.length; i++) {
-            saved[i] = new Loom();
-        }
+        // the fields make an empty loom
     }
 
     // ---- texts
@@ -528,16 +528,16 @@ public final class CaptionLoom {
 
     public void save(int slot) throws IllegalArgumentException {
         checkSlot(slot);
-        saved[slot].copyFrom(now);
-        isSaved[slot] = true;
+        savedIn(slot).copyFrom(now);
+        slotsInUse |= 1 << slot;
     }
 
     public void restore(int slot) throws IllegalArgumentException, IllegalStateException {
         checkSlot(slot);
-        if (!isSaved[slot]) {
+        if ((slotsInUse & 1 << slot) == 0) {
             throw new IllegalStateException("nothing is saved there");
         }
-        now.copyFrom(saved[slot]);
+        now.copyFrom(savedIn(slot));
         history.clear();
     }
 
@@ -619,6 +619,10 @@ public final class CaptionLoom {
         if (slot < 0 || slot >= SLOTS) {
             throw new IllegalArgumentException("slot is out of range");
         }
+    }
+
+    private Loom savedIn(int slot) {
+        return slot == 0 ? savedFirst : savedSecond;
     }
 
     private void appendFour(int signs) {
@@ -1314,7 +1318,6 @@ public final class CaptionLoom {
 
     /** The looms ahead of the latest acts, in a ring: the oldest is lost for the newest. */
     private static final class History {
-        private static final int LAST = MOST_UNDONE - 1;
         private final Loom[] looms = new Loom[MOST_UNDONE];
         private int next;
         int size;
@@ -1330,15 +1333,22 @@ public final class CaptionLoom {
         }
 
         void keep(Loom loom) {
-            looms[next & LAST].copyFrom(loom);
-            next = next + 1 & LAST;
+            if (next < 0 || next >= looms.length) {
+                next = 0;
+            }
+            looms[next].copyFrom(loom);
+            next++;
             size = Math.min(MOST_UNDONE, size + 1);
         }
 
+        /** To be called if the size is more than 0. */
         Loom takeLatest() {
-            next = next - 1 & LAST;
-            size = Math.max(0, size - 1);
-            return looms[next & LAST];
+            next--;
+            if (next < 0 || next >= looms.length) {
+                next = looms.length - 1;
+            }
+            size--;
+            return looms[next];
         }
     }
 
@@ -1461,16 +1471,17 @@ public final class CaptionLoom {
     private static final class DesignReader {
         private final Reader reader;
         private final Caption box = new Caption();
-        private final boolean[] isStocked = new boolean[COLOURS];
-        private boolean isDelayed;
+        /** A bit for each colour whose STOCK was told. */
+        private int coloursTold;
+        private boolean isDelayTold;
 
         DesignReader(Reader reader) {
             this.reader = reader;
         }
 
         boolean readInto(Loom loom) {
-            Arrays.fill(isStocked, false);
-            isDelayed = false;
+            coloursTold = 0;
+            isDelayTold = false;
             reader.begin();
             if (!readSize(loom)) {
                 return false;
@@ -1566,10 +1577,10 @@ public final class CaptionLoom {
                 return false;
             }
             int colour = reader.number;
-            if (colour < 0 || colour >= isStocked.length || isStocked[colour]) {
+            if ((coloursTold & 1 << colour) != 0) {
                 return reader.fail(SECOND_ONE);
             }
-            isStocked[colour] = true;
+            coloursTold |= 1 << colour;
             reader.step();
             if (!reader.takeNumber(0, MOST_STOCK)) {
                 return false;
@@ -1579,10 +1590,10 @@ public final class CaptionLoom {
         }
 
         private boolean readDelay(Loom loom) {
-            if (isDelayed) {
+            if (isDelayTold) {
                 return reader.fail(SECOND_ONE);
             }
-            isDelayed = true;
+            isDelayTold = true;
             reader.step();
             if (!reader.takeNumber(0, MOST_DELAY)) {
                 return false;

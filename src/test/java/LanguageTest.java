@@ -39,7 +39,6 @@ public final class LanguageTest {
     private static final Set<String> LIBRARY = Set.of("java.lang.Math.min(int,int)", "java.lang.Math.max(int,int)",
         "java.lang.String.length()", "java.lang.String.charAt(int)", "java.lang.Object.Object()",
         "java.util.Arrays.fill(int[],int)", "java.util.Arrays.fill(long[],long)",
-        "java.util.Arrays.fill(boolean[],boolean)",
         "java.lang.System.arraycopy(java.lang.Object,int,java.lang.Object,int,int)");
     private static final String STATE = "throws IllegalStateException";
     private static final String ARGUMENT = "throws IllegalArgumentException";
