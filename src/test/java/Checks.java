@@ -1,19 +1,55 @@
 import java.nio.charset.StandardCharsets;
 import java.util.Arrays;
+import java.util.Set;
+import java.util.TreeSet;
 
-/** What the tests share: due answers, due exceptions, texts. */
+/** What the tests share: due answers, due exceptions, texts, tests of edges. */
 final class Checks {
+    private static final Set<Integer> PROMISES = new TreeSet<>();
     private static int done;
     private static int wrong;
+    private static int edges;
+    private static String edge = "";
 
     private Checks() {
+    }
+
+    private static void report(String what) {
+        wrong++;
+        System.out.println(edge + what);
+    }
+
+    /** A test of its own, for a sentence of a promise that names a boundary case. */
+    static void edge(int promise, String sentence, Runnable test) {
+        PROMISES.add(promise);
+        edges++;
+        edge = "promise " + promise + ", " + sentence + ": ";
+        int before = done;
+        try {
+            test.run();
+        } catch (RuntimeException e) {
+            report("threw " + e);
+        }
+        if (done == before) {
+            report("asked nothing");
+        }
+        edge = "";
+    }
+
+    /** Ends a class of edge tests; each of its promises has to have one. */
+    static void endEdges(int firstPromise, int lastPromise) {
+        for (int promise = firstPromise; promise <= lastPromise; promise++) {
+            if (!PROMISES.contains(promise)) {
+                report("no test of an edge of promise " + promise);
+            }
+        }
+        end();
     }
 
     static void due(String what, long want, long got) {
         done++;
         if (want != got) {
-            wrong++;
-            System.out.println(what + " answered " + got + ", due is " + want);
+            report(what + " answered " + got + ", due is " + want);
         }
     }
 
@@ -24,8 +60,7 @@ final class Checks {
     static void due(String what, double want, double got) {
         done++;
         if (want != got) {
-            wrong++;
-            System.out.println(what + " answered " + got + ", due is " + want);
+            report(what + " answered " + got + ", due is " + want);
         }
     }
 
@@ -39,8 +74,7 @@ final class Checks {
             got = e.getClass();
         }
         if (got != want) {
-            wrong++;
-            System.out.println(what + " threw " + got + ", due is " + want);
+            report(what + " threw " + got + ", due is " + want);
         }
     }
 
@@ -85,6 +119,55 @@ final class Checks {
         return loom.play();
     }
 
+    /** The text is told with a ^ at the position of its error. */
+    static void designError(int code, String marked) {
+        CaptionLoom loom = new CaptionLoom();
+        String text = marked.replace("^", "");
+        say(loom, text);
+        due("load of " + text, CaptionLoom.NONE, loom.load());
+        due("errorCode of " + text, code, loom.errorCode());
+        due("errorPosition of " + text, marked.indexOf('^'), loom.errorPosition());
+    }
+
+    /** The text is told with a ^ at the position of its error. */
+    static void scriptError(int code, String marked) {
+        CaptionLoom loom = new CaptionLoom();
+        String text = marked.replace("^", "");
+        say(loom, text);
+        due("play of " + text, CaptionLoom.NONE, loom.play());
+        due("errorCode of " + text, code, loom.errorCode());
+        due("errorPosition of " + text, marked.indexOf('^'), loom.errorPosition());
+    }
+
+    /** The script, on a new loom, has no error, and so many of its commands are done. */
+    static CaptionLoom scriptDoes(int commands, String script) {
+        CaptionLoom loom = new CaptionLoom();
+        due("play of " + script, commands, played(loom, script));
+        due("errorCode of " + script, 0, loom.errorCode());
+        due("errorPosition of " + script, CaptionLoom.NONE, loom.errorPosition());
+        return loom;
+    }
+
+    static void designIs(int captions, String design) {
+        CaptionLoom loom = new CaptionLoom();
+        say(loom, design);
+        due("load of " + design, captions, loom.load());
+        due("errorCode of " + design, 0, loom.errorCode());
+        due("errorPosition of " + design, CaptionLoom.NONE, loom.errorPosition());
+    }
+
+    /** Whether the text buffer is empty: it has a length of 0, and no greater one. */
+    static void dueNoText(CaptionLoom loom) {
+        dueArgument("truncate(1) of no text", () -> loom.truncate(1));
+        due("truncate(0)", 0, loom.truncate(0));
+    }
+
+    /** Passes a colour at one column of the open row. */
+    static void passColumn(CaptionLoom loom, int colour, int column) {
+        int warp = loom.count(0) - 1 - column;
+        due("pass at column " + column, true, loom.pass(colour, warp, warp) >= 0);
+    }
+
     static int added(CaptionLoom loom, String word, int side, int x, int y, int colour) {
         say(loom, word);
         return loom.add(side, x, y, colour);
@@ -103,12 +186,43 @@ final class Checks {
         String got = written(loom, length);
         done++;
         if (!got.equals(want)) {
-            wrong++;
-            System.out.println(what + " wrote " + got + ", due is " + want);
+            report(what + " wrote " + got + ", due is " + want);
         }
     }
 
+    /** All that acts can change; some 200 calls for a loom of 14 by 6, of the 512 that an object is used for. */
+    static String told(CaptionLoom x) {
+        StringBuilder s = new StringBuilder();
+        for (int what = 0; what < 8; what++) {
+            s.append(x.count(what)).append(' ');
+        }
+        for (int colour = 0; colour < 7; colour++) {
+            s.append(x.colour(colour, 0)).append(' ');
+        }
+        int captions = x.count(4);
+        for (int caption = 0; caption < captions; caption++) {
+            for (int what = 0; what <= 9; what++) {
+                s.append(x.caption(caption, what)).append(' ');
+            }
+            int letters = x.caption(caption, 0);
+            for (int letter = 0; letter < letters; letter++) {
+                s.append(x.letter(caption, letter, 0)).append(' ');
+            }
+        }
+        int width = x.count(0);
+        int height = x.count(1);
+        for (int row = 0; row < height; row++) {
+            for (int column = 0; column < width; column++) {
+                s.append(x.cell(column, row)).append(x.design(column, row)).append(' ');
+            }
+        }
+        return s.append(x.mistakes(1)).toString();
+    }
+
     static void end() {
+        if (edges > 0) {
+            System.out.println(edges + " tests of edges");
+        }
         System.out.println(done + " answers, " + wrong + " of them wrong");
         if (wrong != 0) {
             System.exit(1);

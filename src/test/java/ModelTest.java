@@ -1,7 +1,6 @@
 import java.util.ArrayList;
 import java.util.List;
 import java.util.Random;
-import java.util.function.Function;
 
 /** Long runs of calls, drawn from fixed seeds, on the class and on ModelLoom: each answer has to be the same. */
 public final class ModelTest {
@@ -361,15 +360,12 @@ public final class ModelTest {
             same("writeRow(" + row + ", " + isRear + ")", x -> x.writeRow(row, isRear),
                 x -> x.writeRow(row, isRear));
         }
-        same("all output", x -> all(x::output), x -> all(x::output));
-    }
-
-    private static String all(Function<Integer, Integer> output) {
-        StringBuilder s = new StringBuilder();
-        for (int i = -1; i < 90; i++) {
-            s.append(output.apply(i)).append(' ');
+        boolean isWhole = oneIn(4);
+        int asked = isWhole ? model.output.length() : below(8);
+        for (int i = 0; i < asked; i++) {
+            int index = isWhole ? i : about(0, model.output.length() - 1);
+            same("output(" + index + ")", x -> x.output(index), x -> x.output(index));
         }
-        return s.append(output.apply(Integer.MAX_VALUE)).append(output.apply(Integer.MIN_VALUE)).toString();
     }
 
     // ---- calls that only ask
