@@ -210,8 +210,11 @@ public final class ScriptEdgeTest {
             Checks.due("a repeat behind a command", 3, Checks.played(x, "look;repeat 2{look;};"));
             Checks.due("a repeat ahead of all", 3, Checks.played(x, "repeat 3{look;};"));
         });
-        Checks.edge(5, "repeats without another command, as many as there may be", () ->
-            Checks.scriptDoes(1, "repeat 20{repeat 20{repeat 20{};};};".repeat(9) + "look;"));
+        Checks.edge(5, "repeats without another command, as many as there may be", () -> {
+            String nothing = "repeat 20{repeat 20{repeat 20{};};};".repeat(9);
+            Checks.scriptDoes(1, nothing + "look;");
+            Checks.scriptDoes(2, "look;" + nothing + "look;");
+        });
         Checks.edge(5, "the script in braces may be empty", () -> {
             Checks.scriptDoes(0, "repeat 20 {};");
             Checks.scriptDoes(1, "repeat 20 { repeat 20 { repeat 20 { } ; } ; } ; look;");

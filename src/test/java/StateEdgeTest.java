@@ -77,7 +77,9 @@ public final class StateEdgeTest {
             Checks.due("captions", 0, x.count(4));
             Checks.due("letters", 0, x.count(7));
             for (int i = 0; i < 8; i++) {
-                Checks.due("add", i, Checks.added(x, i < 4 ? "abcdefgh" : "i", 0, i < 4 ? 0 : 4 * i, i < 4 ? 5 * i : 20, 1));
+                boolean isLong = i < 4;
+                Checks.due("add", i, Checks.added(x, isLong ? "abcdefgh" : "i", 0, isLong ? 0 : 4 * i,
+                    isLong ? 5 * i : 20, 1));
             }
             Checks.due("captions", 8, x.count(4));
             Checks.due("letters", 36, x.count(7));
@@ -262,7 +264,8 @@ public final class StateEdgeTest {
         // the box of i at 4, 1 has the columns 4 to 6 and the rows 1 to 5
         for (int[] c : new int[][] {{4, 1, 1}, {6, 1, 1}, {4, 5, 1}, {6, 5, 1}, {3, 1, 0}, {7, 1, 0}, {3, 5, 0},
             {7, 5, 0}, {4, 0, 0}, {6, 0, 0}, {4, 6, 0}, {6, 6, 0}}) {
-            Checks.edge(9, "9: a mistake at " + c[0] + ", " + c[1] + (c[2] == 1 ? " in" : " beside") + " the box", () -> {
+            String where = c[0] + ", " + c[1] + (c[2] == 1 ? " in" : " beside") + " the box";
+            Checks.edge(9, "9: a mistake at " + where, () -> {
                 CaptionLoom x = Checks.loaded("loom 12 8;caption i at 4 1 in 1;");
                 oneMistake(x, c[0], c[1]);
                 Checks.due("caption(0, 9)", c[2], x.caption(0, 9));

@@ -170,7 +170,8 @@ public final class WouldEdgeTest {
     private static void wouldErr() {
         Checks.edge(23, "0 without captions", () -> Checks.due("wouldErr(0)", 0, new CaptionLoom().wouldErr(0)));
         Checks.edge(23, "0 for what is the same from both sides", () -> {
-            CaptionLoom x = Checks.loaded("loom 11 6;caption i at 4 0 in 1;caption l at 0 0 in 1;caption j at 8 0 in 1;");
+            CaptionLoom x = Checks.loaded(
+                "loom 11 6;caption i at 4 0 in 1;caption l at 0 0 in 1;caption j at 8 0 in 1;");
             for (int row = 0; row < 6; row++) {
                 Checks.due("wouldErr(" + row + ")", 0, x.wouldErr(row));
             }
