@@ -64,6 +64,13 @@ final class Checks {
         }
     }
 
+    static void due(String what, String want, String got) {
+        done++;
+        if (!want.equals(got)) {
+            report(what + " answered " + got + ", due is " + want);
+        }
+    }
+
     /** The very class of the exception counts, as the machine's own are subclasses of the due ones. */
     static void dueThrow(String what, Class<?> want, Runnable call) {
         done++;
@@ -183,11 +190,7 @@ final class Checks {
 
     static void dueText(String what, String want, CaptionLoom loom, int length) {
         due(what + ": bytes", want.length(), length);
-        String got = written(loom, length);
-        done++;
-        if (!got.equals(want)) {
-            report(what + " wrote " + got + ", due is " + want);
-        }
+        due(what + ": text", want, written(loom, length));
     }
 
     /** All that acts can change; some 200 calls for a loom of 14 by 6, of the 512 that an object is used for. */

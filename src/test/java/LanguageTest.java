@@ -1,9 +1,11 @@
+import com.sun.source.tree.ArrayAccessTree;
 import com.sun.source.tree.AssertTree;
 import com.sun.source.tree.BinaryTree;
 import com.sun.source.tree.ClassTree;
 import com.sun.source.tree.CompilationUnitTree;
 import com.sun.source.tree.ImportTree;
 import com.sun.source.tree.LambdaExpressionTree;
+import com.sun.source.tree.LiteralTree;
 import com.sun.source.tree.MemberReferenceTree;
 import com.sun.source.tree.MethodInvocationTree;
 import com.sun.source.tree.MethodTree;
@@ -13,6 +15,7 @@ import com.sun.source.tree.SynchronizedTree;
 import com.sun.source.tree.ThrowTree;
 import com.sun.source.tree.Tree;
 import com.sun.source.tree.TryTree;
+import com.sun.source.tree.TypeCastTree;
 import com.sun.source.tree.VariableTree;
 import com.sun.source.util.JavacTask;
 import com.sun.source.util.TreePath;
@@ -40,6 +43,8 @@ public final class LanguageTest {
         "java.lang.String.length()", "java.lang.String.charAt(int)", "java.lang.Object.Object()",
         "java.util.Arrays.fill(int[],int)", "java.util.Arrays.fill(long[],long)",
         "java.lang.System.arraycopy(java.lang.Object,int,java.lang.Object,int,int)");
+    private static final Set<String> THROWN = Set.of("IllegalStateException", "IllegalArgumentException",
+        "IndexOutOfBoundsException");
     private static final String STATE = "throws IllegalStateException";
     private static final String ARGUMENT = "throws IllegalArgumentException";
     private static final String INDEX = "throws IndexOutOfBoundsException";
@@ -223,8 +228,34 @@ public final class LanguageTest {
         @Override
         public Void visitThrow(ThrowTree tree, Void v) {
             check(!isInConstructor(), where(tree) + "throw in a constructor");
-            check(tree.getExpression() instanceof NewClassTree, where(tree) + "throw of what is not new");
+            check(tree.getExpression() instanceof NewClassTree thrown
+                && THROWN.contains(thrown.getIdentifier().toString())
+                && thrown.getArguments().stream().allMatch(a -> a instanceof LiteralTree),
+                where(tree) + "throw of something else than a new exception with a written text");
             return super.visitThrow(tree, v);
+        }
+
+        /** The machine would throw for an index that is off: its method has to look at the length of this array. */
+        @Override
+        public Void visitArrayAccess(ArrayAccessTree tree, Void v) {
+            String length = tree.getExpression() + ".length";
+            String body = method() == null ? "" : method().getBody().toString();
+            check(body.contains("< " + length) || body.contains(">= " + length),
+                where(tree) + "an index that is not looked at");
+            return super.visitArrayAccess(tree, v);
+        }
+
+        @Override
+        public Void visitTypeCast(TypeCastTree tree, Void v) {
+            check(tree.getType().toString().matches("int|float|double"), where(tree) + "cast");
+            return super.visitTypeCast(tree, v);
+        }
+
+        @Override
+        public Void visitLiteral(LiteralTree tree, Void v) {
+            check(!(tree.getValue() instanceof String text) || text.chars().allMatch(c -> c >= 1 && c <= 127),
+                where(tree) + "a sign that may not be written");
+            return super.visitLiteral(tree, v);
         }
 
         @Override
@@ -234,6 +265,7 @@ public final class LanguageTest {
                 check(divisor.matches("2|CELLS_A_WORD|GLYPH_WIDTH|\\(float\\)all|\\(double\\)now.finished"),
                     where(tree) + "divides by " + divisor);
             }
+            check(!trees.getTypeMirror(getCurrentPath()).toString().endsWith("String"), where(tree) + "texts joined by +");
             return super.visitBinary(tree, v);
         }
 
